@@ -774,6 +774,38 @@ public final class PromiseTests {
         for (int what = 0; what <= 6; what++) due(x.count(what), wants[what]);
     }
 
+    /** Numbers up to the greatest there may be, 999, count everywhere. */
+    private static void greatestNumber() {
+        LineCites x = told("w4;eb0,1,999;b2,1,999;p3,1,998;ep0,4,996;");
+        int[] wants = {3, 3, 2, 998, 999, 1, 1};
+        for (int what = 0; what <= 6; what++) due(x.edition(0, what), wants[what]);
+        due(x.meant(0, 999, 0), 2);
+        due(x.in(1, 996, 0, 1), 999);
+        due(x.in(0, 999, 1, 2), 998);
+        due(x.through(1, 998, 0, 1, 0), 2);
+        due(x.through(1, 999, 1, 1, 0), 1);
+        dueShifts(x, 0, 1, new int[] {998, 1, 1, 999, 1, -1});
+        dueShifts(x, 1, 0, new int[] {996, 1, 3, 998, 1, 1, 999, 1, -1});
+        int[] table = {0, 1, 1, 2};
+        for (int what = 0; what <= 3; what++) due(x.table(0, 1, what), table[what]);
+        int[] alone = {1, 3, 0, 1};
+        for (int what = 0; what <= 3; what++) due(x.table(1, 0, what), alone[what]);
+        due(x.cite(0, 1, 0, 999, 999), 1);
+        due(x.turned(0, 1, 1), 999);
+        due(x.could(0, 2), 1);
+    }
+
+    /** A number may be but one of the two that a line has. */
+    private static void oneOfTwo() {
+        LineCites x = told("w3;es0,2,1;p2,1,4;ep0,3,1;");
+        due(x.through(1, 3, 0, 1, 0), 2);
+        due(x.through(1, 3, 0, 1, 1), 2);
+        due(x.through(1, 1, 0, 1, 0), 1);
+        due(x.table(1, 0, 3), 1);
+        due(x.cite(0, 0, 0, 4, 9), 2);
+        due(x.cite(0, 0, 0, 1, 3), 2);
+    }
+
     private interface Promise {
         void check();
     }
@@ -818,6 +850,8 @@ public final class PromiseTests {
         check("30 restore", PromiseTests::restore);
         check("30 restore, the tape", PromiseTests::restoreTape);
         check("31 count", PromiseTests::count);
+        check("the greatest number", PromiseTests::greatestNumber);
+        check("one of two numbers", PromiseTests::oneOfTwo);
         check("what is refused changes nothing", PromiseTests::refusedChangesNothing);
         System.out.println(checks + " answers looked at, " + wrong + " not as due");
         if (wrong != 0) System.exit(1);
