@@ -780,6 +780,118 @@ public final class ModelTests {
         return true;
     }
 
+    // ---- every call with every mix of numbers at and beyond the edges, in some states
+
+    /** For each call, in the order of NAMES, what its numbers are. */
+    static final String[] TAKES = {"b", "", "", "", "eklmn", "es", "eswv", "ceknt", "c", "nl", "esw", "esk", "ew", "elw",
+        "enw", "eiw", "enew", "eneew", "eeiw", "eew", "ee", "cw", "cew", "ccw", "cl", "ew", "", "k", "k", "w"};
+    static final String[] TEXTS = {"", "w1;", "w1;ep0,1,999;", "w12;ep0,12,1;es0,6,1;h6,6,20;er0,4,1;b4,3,5;p7,5,1;e",
+        "w9;eb0,1,1;b1,1,9;b2,1,1;s3,1,998;p4,1,3;h5,2,2;eer0,9,991;ee"};
+    static final int FEED = 0, WORK = 1, UNDO = 3, CITE = 7, SEE = 9, FIRST_QUERY = 10, IMAGE = 27, COUNT = 29;
+    /** An object has 512 calls; the last ones look at the counts. */
+    static final int MOST_CALLS = 490;
+
+    static int[] edges(char kind, Model model) {
+        int least = Integer.MIN_VALUE;
+        int most = Integer.MAX_VALUE;
+        int editions = model.count(1);
+        int lines = model.count(0);
+        switch (kind) {
+            case 'b': return new int[] {least, -1, 0, 'w', 255, 256, most};
+            case 'e': return new int[] {-1, 0, editions - 1, editions, most};
+            case 's': return new int[] {least, -1, 0, 1, 2, 5, 6};
+            case 'k': return new int[] {-1, 0, 1, 2, 3, 4, 5, 6};
+            case 'l': return new int[] {-1, 0, 1, lines - 1, lines, most};
+            case 'm': return new int[] {0, 1, 2, lines, lines + 1, most};
+            case 'n': return new int[] {0, 1, 9, 998, 999, 1000, most};
+            case 't': return new int[] {-1, 0, 1, 9, 999, 1000, least};
+            case 'c': return new int[] {least, -1, 0, 1, 7, 8};
+            case 'i': return new int[] {least, -2, -1, 0, 1, 2, most};
+            case 'v': return new int[] {least, -1, 0, 1, 2, 5, 6, 7, lines - 1, lines, 991, 998, 999, 1000, most};
+            default: return new int[] {least, -1, 0, 1, 2, 3, 4, 5, 6, 7, 8, 9, 10, 11, most};
+        }
+    }
+
+    /** The same calls on both: a text, then acts and images that leave it as full as the state asks. */
+    static final class Pair {
+        final LineCites x = new LineCites();
+        final Model model = new Model();
+        int calls;
+        int latest;
+
+        Pair(int state) {
+            String text = TEXTS[state / 2];
+            for (int i = 0; i < text.length(); i++) both(FEED, text.charAt(i));
+            if (!text.isEmpty()) both(WORK);
+            if (state % 2 == 0) return;
+            both(IMAGE, 0);
+            both(CITE, 0, 0, 0, 1, 9);
+            both(CITE, 1, 1, 2, 998, 0);
+            for (int i = 0; i < 12; i++) both(SEE, 1 + i % 2 * 8, i % 9);
+            both(IMAGE, 1);
+            both(CITE, 7, 2, 1, 998, 0);
+            for (int i = 0; i < 200; i++) both(FEED, 'e');
+        }
+
+        boolean both(int call, int... a) {
+            calls++;
+            latest = ask(model, call, a);
+            int got = ask(x, call, a);
+            if (got == latest) return true;
+            System.out.println(NAMES[call] + Arrays.toString(a) + " answered " + got + ", due is " + latest);
+            return false;
+        }
+
+        boolean isRefused() {
+            return latest <= BAD && latest >= FULL;
+        }
+
+        /** What a call did shows in the counts, and in what is undone. */
+        boolean showAlike() {
+            boolean isAlike = true;
+            for (int what = 0; what <= 6; what++) isAlike &= both(COUNT, what);
+            isAlike &= both(UNDO);
+            for (int what = 0; what <= 6; what++) isAlike &= both(COUNT, what);
+            return isAlike;
+        }
+    }
+
+    static int gridOf(int state, int call) {
+        Pair pair = new Pair(state);
+        int[][] edges = new int[TAKES[call].length()][];
+        int mixes = 1;
+        for (int i = 0; i < edges.length; i++) {
+            edges[i] = edges(TAKES[call].charAt(i), pair.model);
+            mixes *= edges[i].length;
+        }
+        boolean isQuery = call >= FIRST_QUERY && call < IMAGE || call == COUNT;
+        int wrong = 0;
+        int[] a = new int[edges.length];
+        for (int mix = 0; mix < mixes && wrong < 5; mix++) {
+            int rest = mix;
+            for (int i = 0; i < a.length; i++) {
+                a[i] = edges[i][rest % edges[i].length];
+                rest /= edges[i].length;
+            }
+            if (!pair.both(call, a)) wrong++;
+            boolean isChanged = !isQuery && !pair.isRefused();
+            if (isChanged || pair.calls >= MOST_CALLS) {
+                if (!pair.showAlike()) wrong++;
+                pair = new Pair(state);
+            }
+        }
+        if (!pair.showAlike()) wrong++;
+        return wrong;
+    }
+
+    static int grid() {
+        int wrong = 0;
+        for (int state = 0; state < 2 * TEXTS.length && wrong == 0; state++) {
+            for (int call = 0; call < NAMES.length; call++) wrong += gridOf(state, call);
+        }
+        return wrong;
+    }
+
     public static void main(String[] args) {
         int wrong = 0;
         for (int seed = 0; seed < RUNS && wrong < 3; seed++) {
@@ -793,7 +905,8 @@ public final class ModelTests {
                 wrong++;
             }
         }
-        System.out.println(RUNS + " random runs against the model, " + wrong + " wrong");
+        wrong += grid();
+        System.out.println(RUNS + " random runs and a grid of edges against the model, " + wrong + " wrong");
         if (wrong != 0) System.exit(1);
     }
 }
