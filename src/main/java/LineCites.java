@@ -26,8 +26,8 @@ public final class LineCites {
     private final Numbering other;
     private final Numbering third;
     private final Spans spans;
+    private final Spans back;
     private final Span span;
-    private final NumberSet owned;
     private final NumberSet middle;
     private final NumberSet reached;
 
@@ -42,8 +42,8 @@ public final class LineCites {
         other = new Numbering();
         third = new Numbering();
         spans = new Spans();
+        back = new Spans();
         span = new Span();
-        owned = new NumberSet();
         middle = new NumberSet();
         reached = new NumberSet();
     }
@@ -227,14 +227,15 @@ public final class LineCites {
         if (!now.hasEdition(a) || !now.hasEdition(b) || what < 0 || what > 3) return BAD;
         one.fill(now, a);
         other.fill(now, b);
-        owned.gatherAll(one);
+        spans.fillWithLines(one);
+        int owned = spans.numbers();
         spans.fillWithNumbers(one, other);
-        int found = 0;
-        for (int n = 1; n <= MOST_NUMBER; n++) {
-            if (!owned.has(n)) continue;
-            if (what == 3 ? comesBackAlone(n) : spans.doubtOf(n) == what) found++;
-        }
-        return found;
+        if (what == 0) return owned - spans.numbers();
+        if (what < 3) return spans.ofDoubt(what);
+        back.fillWithNumbers(other, one);
+        spans.fillThrough(one, other, back);
+        // A number is always among those that it comes back as, so just one is that one.
+        return spans.ofDoubt(1);
     }
 
     public int share(int a, int b) {
@@ -390,12 +391,6 @@ public final class LineCites {
 
     private static int greatestOf(int kind, int many, int first) {
         return highOf(kind, many, first, kind == TURNED ? 0 : many - 1);
-    }
-
-    private boolean comesBackAlone(int n) {
-        middle.gatherOf(n, one, other);
-        reached.gatherOfSet(middle, other, one);
-        return reached.isJust(n);
     }
 
     private void fillCited(Numbering numbering, int citation) {
@@ -973,17 +968,8 @@ public final class LineCites {
             return n >= 0 && n < marks.length && marks[n] == round;
         }
 
-        boolean isJust(int n) {
-            return span.size() == 1 && has(n);
-        }
-
         int answer(int what) {
             return span.answer(what);
-        }
-
-        void gatherAll(Numbering of) {
-            clear();
-            for (int line = 0; line < of.lines(); line++) putNumbers(line, of);
         }
 
         /** The numbers in an edition of the lines that have n in another one. */
@@ -1048,8 +1034,34 @@ public final class LineCites {
             }
         }
 
+        /** The numbers THROUGH b IN a; back has those of b IN a. */
+        void fillThrough(Numbering a, Numbering b, Spans back) {
+            clear();
+            for (int line = 0; line < a.lines(); line++) {
+                if (!a.isNumbered(line) || !b.isNumbered(line)) continue;
+                for (int n = a.low(line); n <= a.high(line); n++) {
+                    putSpan(n, back, b.low(line));
+                    putSpan(n, back, b.high(line));
+                }
+            }
+        }
+
+        private void putSpan(int n, Spans of, int m) {
+            if (!of.hasSome(m)) return;
+            put(n, of.leasts[m]);
+            put(n, of.greatests[m]);
+        }
+
         private boolean hasSome(int n) {
             return isPlace(n) && sizes[n] > 0;
+        }
+
+        int numbers() {
+            int found = 0;
+            for (int n = 1; n <= MOST_NUMBER; n++) {
+                if (hasSome(n)) found++;
+            }
+            return found;
         }
 
         void spanNumbers(Span span) {
@@ -1075,10 +1087,13 @@ public final class LineCites {
             return found;
         }
 
-        /** 0: nothing, 1: just one, 2: more. */
-        int doubtOf(int n) {
-            if (!hasSome(n)) return 0;
-            return leasts[n] == greatests[n] ? 1 : 2;
+        /** How many numbers have just one (1), more (2). */
+        int ofDoubt(int which) {
+            int found = 0;
+            for (int n = 1; n <= MOST_NUMBER; n++) {
+                if (hasSome(n) && (leasts[n] == greatests[n] ? 1 : 2) == which) found++;
+            }
+            return found;
         }
 
         void beginShifts() {
