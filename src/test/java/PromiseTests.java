@@ -552,6 +552,20 @@ public final class PromiseTests {
         due(x.table(0, 1, -1), BAD);
         due(x.table(4, 1, 0), BAD);
         due(x.table(0, 4, 0), BAD);
+        // Number 2, then 1, is one of two of line 0 and the one of line 1: it comes back as both.
+        due(told("w2;es0,1,1;p1,1,2;ep0,2,1;").table(0, 1, 3), 0);
+        due(told("w2;es0,1,1;p1,1,1;ep0,2,1;").table(0, 1, 3), 0);
+        // One of the two numbers that line 0 has there is line 1's, too: the least, then the greatest.
+        due(told("w2;ep0,2,1;es0,1,1;p1,1,1;").table(0, 1, 3), 0);
+        due(told("w2;ep0,2,1;es0,1,1;p1,1,2;").table(0, 1, 3), 0);
+        due(told("w2;ep0,2,1;es0,2,1;").table(0, 1, 3), 2);
+        LineCites y = told("w2;ep0,1,1;p1,1,999;ep0,1,5;ep1,1,5;e");
+        due(y.table(0, 1, 0), 1);
+        due(y.table(0, 2, 0), 1);
+        due(y.table(0, 3, 0), 2);
+        due(y.table(3, 0, 0), 0);
+        due(y.table(0, 2, 1), 1);
+        due(y.table(0, 2, 3), 1);
     }
 
     private static void share() {
